@@ -122,7 +122,7 @@ public final class HoldServer {
         requireBetween(1, size, LARGEST_SIZE);
         Directory home = written.firstLink();
         if (home == null || written.tierOn(day) == COLD_TIER) {
-            throw new IllegalStateException("the file is gone or of the tier 2");
+            throw new IllegalStateException("the file is gone or has to be brought back");
         }
         int growth = size - written.size;
         if (growth > 0) {
@@ -357,7 +357,7 @@ public final class HoldServer {
     private static final class StoredFile {
         final Department owner;
         final ArrayList<Directory> links = new ArrayList<Directory>();
-        // 0 once the file is gone, so that no sum over files needs to leave it out
+        // 0 once the file is gone, since that is what is told of it then
         int size;
         int holders;
         int kept;

@@ -22,31 +22,38 @@ final class Checks {
     }
 
     /** The call throws just this exception, and the server shows the same before and behind it. */
-    void refused(String call, HoldServer server, Class<? extends RuntimeException> due, Call made) {
+    void refused(String call, HoldServer server, Class<? extends RuntimeException> due, Call attempt) {
         String before = Sight.of(server);
-        due(call, outcome(made), due.getSimpleName());
+        due(call, outcome(attempt), due.getSimpleName());
         due(call + " changed something: it", Sight.of(server), before);
     }
 
-    void noSuchOne(String call, HoldServer server, Call made) {
-        refused(call, server, IndexOutOfBoundsException.class, made);
+    void noSuchOne(String call, HoldServer server, Call attempt) {
+        refused(call, server, IndexOutOfBoundsException.class, attempt);
     }
 
-    void outOfRange(String call, HoldServer server, Call made) {
-        refused(call, server, IllegalArgumentException.class, made);
+    void outOfRange(String call, HoldServer server, Call attempt) {
+        refused(call, server, IllegalArgumentException.class, attempt);
     }
 
-    void notNow(String call, HoldServer server, Call made) {
-        refused(call, server, IllegalStateException.class, made);
+    void notNow(String call, HoldServer server, Call attempt) {
+        refused(call, server, IllegalStateException.class, attempt);
     }
 
-    /** The answer as text, or the name of what was thrown. */
+    /** The answer as text, or the name of what was thrown, and whether the library or the machine threw it. */
     static String outcome(Call call) {
         try {
             return Integer.toString(call.answer());
         } catch (RuntimeException e) {
-            return e.getClass().getSimpleName();
+            return (isThrownByCode(e) ? "" : "machine's ") + e.getClass().getSimpleName();
         }
+    }
+
+    /** A list's own IndexOutOfBoundsException has the right name, but no call may let it come to that. */
+    private static boolean isThrownByCode(RuntimeException e) {
+        StackTraceElement[] trace = e.getStackTrace();
+        return trace.length > 0 && !trace[0].getClassName().startsWith("java.")
+            && !trace[0].getClassName().startsWith("jdk.");
     }
 
     void end(String name) {

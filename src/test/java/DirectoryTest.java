@@ -129,7 +129,7 @@ final class DirectoryTest {
         x.make(0, 5, 10);
         usages(x, 10, 10, 10, 0, 0, 10);
         x.make(1, 3, 200);
-        x.make(2, 0, 4000 - 3000);
+        x.make(2, 0, 1000);
         usages(x, 1210, 210, 10, 200, 0, 10);
         x.link(0, 4);
         x.link(0, 1);

@@ -177,7 +177,6 @@ final class FileTest {
         checks.due("unlink into a directory without room", x.unlink(0, 2), 1);
         checks.due("its usage", x.usage(3), 40);
         checks.notNow("growth there", x, () -> x.write(0, 41));
-        x.pass(50);
         HoldServer y = new HoldServer();
         y.addDirectory(0, -1);
         y.make(0, 0, 1000);

@@ -104,13 +104,9 @@ final class HoldTest {
         x.write(0, 3);
         x.hold(4, 0);
         checks.due("not from before", x.kept(0), 0);
-        checks.notNow("a write that is refused keeps nothing", refusedByQuota(x), () -> x.write(0, 4));
-        checks.due("kept", x.kept(0), 0);
-    }
-
-    private static HoldServer refusedByQuota(HoldServer x) {
         x.setQuota(0, 0);
-        return x;
+        checks.notNow("a write that is refused", x, () -> x.write(0, 4));
+        checks.due("nothing by that", x.kept(0), 0);
     }
 
     private static void promise20KeepsAFileThatIsGone() {
