@@ -1,49 +1,65 @@
+import java.util.function.Supplier;
+
 /** Counts the checks of one test class, prints those that go wrong, and ends with exit code 1 if any did. */
 final class Checks {
-    interface Call {
-        int answer();
-    }
-
     private int made;
     private int wrong;
 
-    void due(String call, int got, int due) {
+    void due(String told, int got, int due) {
         made++;
         if (got != due) {
-            tell(call + " answered " + got + ", due is " + due);
+            tell(told + " answered " + got + ", due is " + due);
         }
     }
 
-    void due(String call, String got, String due) {
+    void due(String told, String got, String due) {
         made++;
         if (!got.equals(due)) {
-            tell(call + " shows " + got + ", due is " + due);
+            tell(told + " shows " + got + ", due is " + due);
         }
     }
 
-    /** The call throws just this exception, and the server shows the same before and behind it. */
-    void refused(String call, HoldServer server, Class<? extends RuntimeException> due, Call attempt) {
-        String before = Sight.of(server);
-        due(call, outcome(attempt), due.getSimpleName());
-        due(call + " changed something: it", Sight.of(server), before);
+    /** The call throws just this exception, and nothing of the server is another behind it. */
+    void refused(String told, Trial x, Class<? extends RuntimeException> due, Trial.Call attempt) {
+        outcomeIs(told, x, due.getSimpleName(), attempt);
     }
 
-    void noSuchOne(String call, HoldServer server, Call attempt) {
-        refused(call, server, IndexOutOfBoundsException.class, attempt);
+    /** The call gives this answer, and nothing of the server is another behind it. */
+    void changesNothing(String told, Trial x, int due, Trial.Call call) {
+        outcomeIs(told, x, Integer.toString(due), call);
     }
 
-    void outOfRange(String call, HoldServer server, Call attempt) {
-        refused(call, server, IllegalArgumentException.class, attempt);
+    private void outcomeIs(String told, Trial x, String due, Trial.Call call) {
+        Supplier<Trial> twinsBehindIt = () -> {
+            Trial twin = x.twin();
+            outcome(twin, call);
+            return twin;
+        };
+        due(told + " changed something: it", Sight.everything(twinsBehindIt), Sight.everything(x::twin));
+        due(told, outcome(x, call), due);
     }
 
-    void notNow(String call, HoldServer server, Call attempt) {
-        refused(call, server, IllegalStateException.class, attempt);
+    void noSuchOne(String told, Trial x, Trial.Call attempt) {
+        refused(told, x, IndexOutOfBoundsException.class, attempt);
+    }
+
+    void outOfRange(String told, Trial x, Trial.Call attempt) {
+        refused(told, x, IllegalArgumentException.class, attempt);
+    }
+
+    void notNow(String told, Trial x, Trial.Call attempt) {
+        refused(told, x, IllegalStateException.class, attempt);
+    }
+
+    /** The numbers that are just not in a range any more, and those that are furthest from it. */
+    static int[] outside(int least, int most) {
+        return new int[] {least - 1, most + 1, Integer.MIN_VALUE, Integer.MAX_VALUE};
     }
 
     /** The answer as text, or the name of what was thrown, and whether the library or the machine threw it. */
-    static String outcome(Call call) {
+    static String outcome(Trial x, Trial.Call call) {
         try {
-            return Integer.toString(call.answer());
+            return Integer.toString(x.ask(call));
         } catch (RuntimeException e) {
             return (isThrownByCode(e) ? "" : "machine's ") + e.getClass().getSimpleName();
         }

@@ -38,6 +38,14 @@ final class PlainServer {
         dirs.add(root);
     }
 
+    int directories() {
+        return dirs.size();
+    }
+
+    int files() {
+        return items.size();
+    }
+
     int call(String name, int a, int b, int c) {
         switch (name) {
             case "addDirectory": return addDirectory(a, b);
@@ -50,7 +58,20 @@ final class PlainServer {
             case "hold": return hold(a, b);
             case "release": return release(a);
             case "fund": return fund(a, b);
-            default: return pass(a);
+            case "pass": return pass(a);
+            case "day": return today;
+            case "directories": return dirs.size();
+            case "files": return items.size();
+            case "usage": return usageOf(index(a, dirs.size()));
+            case "usageByWalking": return usageOf(index(a, dirs.size()));
+            case "size": return sizeOf(items.get(index(a, items.size())));
+            case "home": return homeOf(items.get(index(a, items.size())));
+            case "kept": return keptOf(items.get(index(a, items.size())));
+            case "holders": return bitsOf(items.get(index(a, items.size())));
+            case "tier": return tierOf(items.get(index(a, items.size())));
+            case "coins": return purse[index(a, 4)];
+            case "bill": return billOf(index(a, 4));
+            default: throw new AssertionError("no call is named " + name);
         }
     }
 
@@ -199,12 +220,8 @@ final class PlainServer {
         }
         for (int f = 0; f < items.size(); f++) {
             Item item = items.get(f);
-            int bits = 0;
-            for (int matter : item.matters) {
-                bits += 1 << matter;
-            }
-            text.append("; file " + f + ": " + (item.gone() ? 0 : item.size) + " "
-                + (item.gone() ? -1 : item.links.get(0)) + " " + keptOf(item) + " " + bits + " " + tierOf(item));
+            text.append("; file " + f + ": " + sizeOf(item) + " " + homeOf(item) + " " + keptOf(item)
+                + " " + bitsOf(item) + " " + tierOf(item));
         }
         for (int p = 0; p < 4; p++) {
             text.append("; department " + p + ": " + purse[p] + " " + billOf(p));
@@ -235,6 +252,22 @@ final class PlainServer {
             }
         }
         return sum;
+    }
+
+    private static int sizeOf(Item item) {
+        return item.gone() ? 0 : item.size;
+    }
+
+    private static int homeOf(Item item) {
+        return item.gone() ? -1 : item.links.get(0);
+    }
+
+    private static int bitsOf(Item item) {
+        int bits = 0;
+        for (int matter : item.matters) {
+            bits += 1 << matter;
+        }
+        return bits;
     }
 
     private int tierOf(Item item) {
@@ -272,10 +305,11 @@ final class PlainServer {
         return sum / 100 + (sum % 100 == 0 ? 0 : 1);
     }
 
-    private static void index(int number, int count) {
+    private static int index(int number, int count) {
         if (number < 0 || number >= count) {
             throw new IndexOutOfBoundsException();
         }
+        return number;
     }
 
     private static void argument(boolean fine) {
